@@ -69,7 +69,7 @@ public final class ValueSieve {
         requirePlace(d);
         requirePlace(a);
         requirePlace(b);
-        if (operation < 0 || operation > Operations.LAST) {
+        if (operation < 0 || operation > Operations.MOVE) {
             throw new IllegalArgumentException("there is no such operation");
         }
         if (bits != 64 && bits != 32) {
@@ -207,7 +207,7 @@ public final class ValueSieve {
     private static void requireComparison(int comparison, int a, int b) {
         requirePlace(a);
         requirePlace(b);
-        if (comparison < 0 || comparison > Comparisons.LAST) {
+        if (comparison < 0 || comparison > Comparisons.NO_BIT_IN_BOTH) {
             throw new IllegalArgumentException("there is no such comparison");
         }
         if (a == b) {
@@ -426,7 +426,6 @@ public final class ValueSieve {
         static final int RIGHT = 9;
         static final int SIGNED_RIGHT = 10;
         static final int MOVE = 11;
-        static final int LAST = 11;
 
         /** The witness's way; farthest is the longest shift, 63 or 31, and so its mask, too. */
         static long reckon(int operation, long v, long w, int farthest) {
@@ -619,8 +618,8 @@ public final class ValueSieve {
         static final int SIGNED_NOT_MORE = 7;
         static final int SIGNED_MORE = 8;
         static final int SIGNED_NOT_LESS = 9;
-        static final int MEET = 10;
-        static final int LAST = 11;
+        static final int BIT_IN_BOTH = 10;
+        static final int NO_BIT_IN_BOTH = 11;
 
         static boolean isSo(int comparison, long v, long w) {
             switch (comparison) {
@@ -644,7 +643,7 @@ public final class ValueSieve {
                     return v > w;
                 case SIGNED_NOT_LESS:
                     return v >= w;
-                case MEET:
+                case BIT_IN_BOTH:
                     return (v & w) != 0;
                 default:
                     return (v & w) == 0;
@@ -693,7 +692,7 @@ public final class ValueSieve {
                 case SIGNED_NOT_LESS:
                     orderSigned(y, x);
                     break;
-                case MEET:
+                case BIT_IN_BOTH:
                     shareBit(x, y);
                     break;
                 default:

@@ -610,7 +610,7 @@ public final class ModelTest {
             long v;
             switch (dice.nextInt(6)) {
                 case 0:
-                    return dice.nextInt(70) - 3;
+                    return dice.nextBoolean() ? dice.nextInt(70) : dice.nextInt(12) - 6;
                 case 1:
                     return (1L << dice.nextInt(64)) + dice.nextInt(5) - 2;
                 case 2:
@@ -757,7 +757,19 @@ public final class ModelTest {
             }
         }
 
+        /** Single values at another's bounds are where refining has its edges. */
+        void defineAtBound(int p, Model m) {
+            BigInteger[] bounds = {m.low, m.high, m.least, m.greatest};
+            long v = bounds[dice.nextInt(4)].longValue();
+            call = "constant " + v;
+            sieve.constant(p, v);
+            set(p, Model.of(v), v);
+        }
+
         void compareTwo(int c, int a, int b) {
+            if (dice.nextInt(4) == 0) {
+                defineAtBound(b, models[a]);
+            }
             call = "decided " + c + " " + a + " " + b;
             Model[] yes = refine(c, models[a], models[b]);
             Model[] no = refine(OPPOSITE[c], models[a], models[b]);

@@ -266,6 +266,17 @@ public final class PromisesTest {
         s.constant(2, -1);
         s.operate(MULTIPLY, 64, 3, 1, 2);
         has("6: MULTIPLY, -2^63 by -1 is no long", s, 3, 0, ALL, MIN, MAX, ALL, MIN);
+        s.between(1, false, -1, 2, -1);
+        s.between(2, false, 3, 5, 4);
+        s.operate(MULTIPLY, 64, 3, 1, 2);
+        has("6: MULTIPLY, LEAST is -1", s, 3, 0, ALL, -5, 10, ALL, -4);
+        s.between(2, false, MIN, 0, MIN);
+        s.operate(MULTIPLY, 64, 3, 1, 2);
+        has("6: MULTIPLY, -1 by -2^63 is no long", s, 3, 0, ALL, MIN, MAX, ALL, MIN);
+        s.between(1, false, -(1L << 62), 1, 1);
+        s.between(2, false, -4, 1, 1);
+        s.operate(MULTIPLY, 64, 3, 1, 2);
+        has("6: MULTIPLY, only LEAST * LEAST' is no long", s, 3, 0, ALL, MIN, MAX, ALL, 1);
         s.constant(1, 0x9_00000003L);
         s.constant(2, 0xFFFFFFFFL);
         s.operate(MULTIPLY, 32, 3, 1, 2);
@@ -607,6 +618,14 @@ public final class PromisesTest {
         s.constant(2, -1);
         check("12: other", s.branch(1, 1, 2), true);
         has("12: -1 is out", s, 1, 1, 3, 1, 3, 3, 1);
+        s.between(1, false, -3, 3, 0);
+        s.constant(2, -1);
+        check("12: other", s.branch(1, 1, 2), true);
+        has("12: -1 is out, HIGH alone", s, 1, 0, -2, -3, 3, ALL, 0);
+        check("12: and it is", s.has(1, -1), false);
+        s.constant(2, 3);
+        check("12: other", s.branch(1, 1, 2), true);
+        has("12: 3 is out, GREATEST alone", s, 1, 0, -2, -3, 2, ALL, 0);
     }
 
     private static void branchOrder() {
@@ -690,7 +709,10 @@ public final class PromisesTest {
         notAsSaid("12: comparison -1", m, () -> m.branch(-1, 1, 2));
         notAsSaid("12: one place", m, () -> m.branch(0, 3, 3));
         noPlace("12: no place goes first", m, () -> m.branch(12, -1, -1));
+        noPlace("12: a", m, () -> m.branch(0, -1, 3));
+        noPlace("12: a", m, () -> m.branch(0, 16, 3));
         noPlace("12: b", m, () -> m.branch(0, 3, 16));
+        noPlace("12: b goes before the comparison", m, () -> m.branch(-1, 3, -1));
         ValueSieve s = new ValueSieve();
         s.between(1, true, 3, 12, 7);
         s.between(2, true, 3, 12, 7);
@@ -745,6 +767,7 @@ public final class PromisesTest {
         notAsSaid("13: comparison -1", m, () -> m.decided(-1, 1, 2));
         notAsSaid("13: one place", m, () -> m.decided(0, 3, 3));
         noPlace("13: no place goes first", m, () -> m.decided(12, 16, 16));
+        noPlace("13: a", m, () -> m.decided(0, 16, 3));
         noPlace("13: b", m, () -> m.decided(0, 3, -1));
     }
 
