@@ -270,6 +270,7 @@ public final class PromisesTest {
         s.between(2, false, 3, 5, 4);
         s.operate(MULTIPLY, 64, 3, 1, 2);
         has("6: MULTIPLY, LEAST is -1", s, 3, 0, ALL, -5, 10, ALL, -4);
+        s.between(1, false, -1, 1, -1);
         s.between(2, false, MIN, 0, MIN);
         s.operate(MULTIPLY, 64, 3, 1, 2);
         has("6: MULTIPLY, -1 by -2^63 is no long", s, 3, 0, ALL, MIN, MAX, ALL, MIN);
