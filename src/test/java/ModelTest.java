@@ -14,6 +14,9 @@ public final class ModelTest {
     private static final BigInteger LONG_MIN = BigInteger.valueOf(Long.MIN_VALUE);
     private static final BigInteger LONG_MAX = BigInteger.valueOf(Long.MAX_VALUE);
     private static final int OPEN = 2;
+    // A step takes this many calls at most, and the last look at all the places this many.
+    private static final int STEP_CALLS = 50;
+    private static final int LAST_CALLS = 16 * 9;
 
     private static int wrong = 0;
 
@@ -574,7 +577,7 @@ public final class ModelTest {
     private static final class Run {
         final Random dice;
         final int number;
-        final ValueSieve sieve = new ValueSieve();
+        final Sieve sieve = new Sieve();
         final Model[] models = new Model[16];
         final long[] witnesses = new long[16];
         String call = "new";
@@ -698,8 +701,10 @@ public final class ModelTest {
             int d = place();
             int a = place();
             int b = place();
-            int kind = dice.nextInt(20);
-            if (kind < 5) {
+            int kind = dice.nextInt(21);
+            if (kind == 20) {
+                refuse(dice.nextInt(8), d, a, b);
+            } else if (kind < 5) {
                 define(d);
                 compare(d);
             } else if (kind < 10) {
@@ -730,6 +735,48 @@ public final class ModelTest {
             } else if (a != b) {
                 compareTwo(dice.nextInt(12), a, b);
             }
+        }
+
+        /** A refused call; that it changed nothing is seen by what later calls answer. */
+        void refuse(int kind, int d, int a, int b) {
+            int none = dice.nextBoolean() ? -1 - dice.nextInt(3) : 16 + dice.nextInt(3);
+            call = "refused call " + kind + " with " + none;
+            Class<?> got = null;
+            try {
+                switch (kind) {
+                    case 0:
+                        sieve.between(d, true, 7, 9, 10);
+                        break;
+                    case 1:
+                        sieve.pattern(d, 8, 3, 4);
+                        break;
+                    case 2:
+                        sieve.operate(none, 64, d, a, b);
+                        break;
+                    case 3:
+                        sieve.cut(d, a, 12);
+                        break;
+                    case 4:
+                        sieve.branch(none, a, b);
+                        break;
+                    case 5:
+                        sieve.branch(3, a, none);
+                        break;
+                    case 6:
+                        sieve.join(d, none, b, true);
+                        break;
+                    default:
+                        sieve.operate(2, 32, d, a, none);
+                        break;
+                }
+            } catch (RuntimeException e) {
+                got = e.getClass();
+            }
+            Class<?> due = kind < 5 ? IllegalArgumentException.class : IndexOutOfBoundsException.class;
+            check("what it threw, " + got, got == due ? 1 : 0, 1);
+            compare(d);
+            compare(a);
+            compare(b);
         }
 
         void ask(int p) {
@@ -786,10 +833,10 @@ public final class ModelTest {
     }
 
     public static void main(String[] args) {
-        int runs = args.length > 0 ? Integer.parseInt(args[0]) : 1500;
+        int runs = args.length > 0 ? Integer.parseInt(args[0]) : 2500;
         for (int number = 0; number < runs && wrong < 50; number++) {
             Run run = new Run(number);
-            for (int k = 0; k < 60 && wrong < 50; k++) {
+            while (run.sieve.callsLeft() >= STEP_CALLS + LAST_CALLS && wrong < 50) {
                 run.step();
             }
             for (int p = 0; p < 16; p++) {

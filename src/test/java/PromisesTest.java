@@ -1,4 +1,4 @@
-/** Each promise of the document by worked cases: ordinary inputs, named edges, wrong inputs. */
+/** Each promise of the document by worked cases; what is refused stands in RefusalsTest. */
 public final class PromisesTest {
     private static final long MIN = Long.MIN_VALUE;
     private static final long MAX = Long.MAX_VALUE;
@@ -18,10 +18,6 @@ public final class PromisesTest {
 
     private static int wrong = 0;
 
-    private interface Call {
-        void run();
-    }
-
     private static void check(String what, long got, long want) {
         if (got != want) {
             wrong++;
@@ -34,7 +30,7 @@ public final class PromisesTest {
     }
 
     /** What a place has: LOW, HIGH, LEAST, GREATEST, the unknown bits, the witness. */
-    private static void has(String what, ValueSieve s, int place, long... due) {
+    private static void has(String what, Sieve s, int place, long... due) {
         check(what + ", LOW", s.least(place, true), due[0]);
         check(what + ", HIGH", s.greatest(place, true), due[1]);
         check(what + ", LEAST", s.least(place, false), due[2]);
@@ -45,78 +41,30 @@ public final class PromisesTest {
         check(what + ", strays", s.strays(), 0);
     }
 
-    private static void hasJust(String what, ValueSieve s, int place, long v) {
+    private static void hasJust(String what, Sieve s, int place, long v) {
         has(what, s, place, v, v, v, v, 0, v);
         check(what + ", has it", s.has(place, v), true);
         check(what + ", has no other", s.has(place, v ^ 1), false);
     }
 
-    private static String state(ValueSieve s) {
-        StringBuilder text = new StringBuilder();
-        for (int p = 0; p < 16; p++) {
-            text.append(s.least(p, true)).append(' ').append(s.greatest(p, true)).append(' ');
-            text.append(s.least(p, false)).append(' ').append(s.greatest(p, false)).append(' ');
-            text.append(s.unknown(p)).append(' ').append(s.witness(p)).append('\n');
-        }
-        return text.append(s.strays()).toString();
-    }
-
-    private static void refused(String what, ValueSieve s, Class<?> due, Call call) {
-        String before = state(s);
-        Class<?> got = null;
-        try {
-            call.run();
-        } catch (RuntimeException e) {
-            got = e.getClass();
-        }
-        if (got != due) {
-            wrong++;
-            System.out.println(what + ": threw " + got + ", due is " + due);
-        }
-        if (!before.equals(state(s))) {
-            wrong++;
-            System.out.println(what + ": changed something, though it threw");
-        }
-    }
-
-    private static void noPlace(String what, ValueSieve s, Call call) {
-        refused(what, s, IndexOutOfBoundsException.class, call);
-    }
-
-    private static void notAsSaid(String what, ValueSieve s, Call call) {
-        refused(what, s, IllegalArgumentException.class, call);
-    }
-
-    /** A sieve whose places are not all the same, so that a wrong write is seen. */
-    private static ValueSieve mixed() {
-        ValueSieve s = new ValueSieve();
-        for (int p = 0; p < 16; p++) {
-            s.between(p, true, p, 3L * p + 1, p + 1);
-        }
-        return s;
-    }
-
     private static void newObject() {
-        ValueSieve s = new ValueSieve();
+        Sieve s = new Sieve();
         for (int p = 0; p < 16; p++) {
             hasJust("1: new place " + p, s, p, 0);
         }
     }
 
     private static void any() {
-        ValueSieve s = new ValueSieve();
+        Sieve s = new Sieve();
         s.any(0, 5);
         has("2: any(0, 5)", s, 0, 0, ALL, MIN, MAX, ALL, 5);
         s.any(15, MIN);
         has("2: any(15, MIN)", s, 15, 0, ALL, MIN, MAX, ALL, MIN);
         hasJust("2: another place", s, 1, 0);
-        noPlace("2: any(16)", s, () -> s.any(16, 0));
-        noPlace("2: any(-1)", s, () -> s.any(-1, 0));
-        noPlace("2: any(MIN)", s, () -> s.any(Integer.MIN_VALUE, 0));
     }
 
     private static void constant() {
-        ValueSieve s = new ValueSieve();
+        Sieve s = new Sieve();
         long[] numbers = {0, 1, -1, MIN, MAX, 42};
         for (int k = 0; k < numbers.length; k++) {
             s.constant(k, numbers[k]);
@@ -125,12 +73,10 @@ public final class PromisesTest {
         s.any(3, 9);
         s.constant(3, 8);
         hasJust("3: constant over another value", s, 3, 8);
-        noPlace("3: constant(16)", s, () -> s.constant(16, 1));
-        noPlace("3: constant(-1)", s, () -> s.constant(-1, 1));
     }
 
     private static void between() {
-        ValueSieve s = new ValueSieve();
+        Sieve s = new Sieve();
         s.between(0, true, 3, 12, 7);
         has("4: 3..12", s, 0, 3, 12, 3, 12, 15, 7);
         s.between(0, true, 8, 11, 11);
@@ -147,20 +93,10 @@ public final class PromisesTest {
         has("4: all longs", s, 0, 0, ALL, MIN, MAX, ALL, 3);
         s.between(0, true, ALL, ALL, ALL);
         hasJust("4: one number", s, 0, ALL);
-        ValueSieve m = mixed();
-        notAsSaid("4: above", m, () -> m.between(1, true, 3, 12, 13));
-        notAsSaid("4: below", m, () -> m.between(1, true, 3, 12, 2));
-        notAsSaid("4: below, unsigned", m, () -> m.between(1, true, -4, -1, 9));
-        notAsSaid("4: above, as longs", m, () -> m.between(1, false, MIN, -1, 0));
-        notAsSaid("4: no numbers", m, () -> m.between(1, true, 5, 4, 5));
-        notAsSaid("4: no numbers, unsigned", m, () -> m.between(1, true, -4, 9, -4));
-        notAsSaid("4: no numbers, as longs", m, () -> m.between(1, false, 9, -4, 9));
-        noPlace("4: no place goes first", m, () -> m.between(16, true, 5, 4, 5));
-        noPlace("4: no place", m, () -> m.between(-1, true, 1, 4, 2));
     }
 
     private static void pattern() {
-        ValueSieve s = new ValueSieve();
+        Sieve s = new Sieve();
         s.pattern(0, 8, 5, 12);
         has("5: 8 and 5 open", s, 0, 8, 13, 8, 13, 5, 12);
         check("5: has 9", s.has(0, 9), true);
@@ -173,16 +109,10 @@ public final class PromisesTest {
         hasJust("5: nothing open", s, 0, 77);
         s.pattern(0, 77, ALL, 3);
         has("5: all open", s, 0, 0, ALL, MIN, MAX, ALL, 3);
-        ValueSieve m = mixed();
-        notAsSaid("5: the witness lacks a 1", m, () -> m.pattern(1, 8, 7, 0));
-        notAsSaid("5: the witness has a 1 too many", m, () -> m.pattern(1, 8, 7, 24));
-        notAsSaid("5: the witness differs in bit 63", m, () -> m.pattern(1, MIN, 7, 1));
-        noPlace("5: no place goes first", m, () -> m.pattern(16, 8, 7, 0));
-        noPlace("5: no place", m, () -> m.pattern(-1, 8, 7, 9));
     }
 
     private static void operateAdd() {
-        ValueSieve s = new ValueSieve();
+        Sieve s = new Sieve();
         s.pattern(1, 4, 1, 5);
         s.pattern(2, 2, 8, 10);
         s.operate(ADD, 64, 3, 1, 2);
@@ -213,7 +143,7 @@ public final class PromisesTest {
     }
 
     private static void operateSubtract() {
-        ValueSieve s = new ValueSieve();
+        Sieve s = new Sieve();
         s.between(1, true, 10, 12, 11);
         s.between(2, true, 3, 4, 3);
         s.operate(SUBTRACT, 64, 3, 1, 2);
@@ -237,7 +167,7 @@ public final class PromisesTest {
     }
 
     private static void operateMultiply() {
-        ValueSieve s = new ValueSieve();
+        Sieve s = new Sieve();
         s.between(1, true, 3, 5, 4);
         s.between(2, true, 7, 8, 7);
         s.operate(MULTIPLY, 64, 3, 1, 2);
@@ -285,7 +215,7 @@ public final class PromisesTest {
     }
 
     private static void operateDivide() {
-        ValueSieve s = new ValueSieve();
+        Sieve s = new Sieve();
         s.between(1, true, 20, 50, 23);
         s.between(2, true, 3, 7, 5);
         s.operate(DIVIDE, 64, 3, 1, 2);
@@ -309,7 +239,7 @@ public final class PromisesTest {
     }
 
     private static void operateRest() {
-        ValueSieve s = new ValueSieve();
+        Sieve s = new Sieve();
         s.pattern(1, 8, 5, 12);
         s.between(2, true, 14, 20, 17);
         s.operate(REST, 64, 3, 1, 2);
@@ -334,7 +264,7 @@ public final class PromisesTest {
     }
 
     private static void operateBits() {
-        ValueSieve s = new ValueSieve();
+        Sieve s = new Sieve();
         s.pattern(1, 0b1100, 0b0011, 0b1101);
         s.pattern(2, 0b1010, 0b0101, 0b1111);
         s.operate(AND, 64, 3, 1, 2);
@@ -358,7 +288,7 @@ public final class PromisesTest {
     }
 
     private static void operateLeft() {
-        ValueSieve s = new ValueSieve();
+        Sieve s = new Sieve();
         s.pattern(1, 9, 4, 13);
         s.constant(2, 66);
         s.operate(LEFT, 64, 3, 1, 2);
@@ -395,7 +325,7 @@ public final class PromisesTest {
     }
 
     private static void operateRight() {
-        ValueSieve s = new ValueSieve();
+        Sieve s = new Sieve();
         s.between(1, false, -16, -9, -12);
         s.constant(2, 2);
         s.operate(RIGHT, 64, 3, 1, 2);
@@ -439,7 +369,7 @@ public final class PromisesTest {
     }
 
     private static void operatePlaces() {
-        ValueSieve s = new ValueSieve();
+        Sieve s = new Sieve();
         s.pattern(1, 8, 5, 12);
         s.any(2, 77);
         s.operate(MOVE, 64, 3, 2, 1);
@@ -450,20 +380,10 @@ public final class PromisesTest {
         s.between(4, true, 1, 2, 2);
         s.operate(ADD, 64, 4, 4, 4);
         has("6: ADD, all three the same place", s, 4, 2, 4, 2, 4, 7, 4);
-        ValueSieve m = mixed();
-        notAsSaid("6: operation 12", m, () -> m.operate(12, 64, 1, 2, 3));
-        notAsSaid("6: operation -1", m, () -> m.operate(-1, 64, 1, 2, 3));
-        notAsSaid("6: 63 bits", m, () -> m.operate(0, 63, 1, 2, 3));
-        notAsSaid("6: 16 bits", m, () -> m.operate(0, 16, 1, 2, 3));
-        notAsSaid("6: 0 bits", m, () -> m.operate(0, 0, 1, 2, 3));
-        noPlace("6: d", m, () -> m.operate(0, 64, 16, 2, 3));
-        noPlace("6: a goes before the operation", m, () -> m.operate(12, 64, 1, -1, 3));
-        noPlace("6: b goes before the bits", m, () -> m.operate(0, 63, 1, 2, 16));
-        noPlace("6: a counts for MOVE, too", m, () -> m.operate(11, 64, 1, 16, 2));
     }
 
     private static void cut() {
-        ValueSieve s = new ValueSieve();
+        Sieve s = new Sieve();
         s.between(1, true, 0x123, 0x145, 0x130);
         s.cut(2, 1, 8);
         has("7: cut to 8, the same above", s, 2, 0x23, 0x45, 0x23, 0x45, 0x7F, 0x30);
@@ -482,16 +402,10 @@ public final class PromisesTest {
         has("7: cut to 64", s, 2, 0, ALL, -3, 5, ALL, -3);
         s.cut(2, 1, 8);
         has("7: cut of negatives", s, 2, 0, 255, 0, 255, 255, 253);
-        ValueSieve m = mixed();
-        for (int bits : new int[] {0, 7, 9, 24, 63, 65, -8, Integer.MIN_VALUE, Integer.MAX_VALUE}) {
-            notAsSaid("7: cut to " + bits, m, () -> m.cut(1, 2, bits));
-        }
-        noPlace("7: d goes first", m, () -> m.cut(16, 2, 9));
-        noPlace("7: a", m, () -> m.cut(1, -1, 8));
     }
 
     private static void extend() {
-        ValueSieve s = new ValueSieve();
+        Sieve s = new Sieve();
         s.between(1, true, 0x105, 0x17F, 0x106);
         s.extend(2, 1, 8);
         has("8: extend from 8, below 128", s, 2, 5, 127, 5, 127, 127, 6);
@@ -512,16 +426,10 @@ public final class PromisesTest {
         s.any(1, 0x1_80000000L);
         s.extend(1, 1, 32);
         has("8: extend in its place", s, 1, 0, ALL, Integer.MIN_VALUE, Integer.MAX_VALUE, ALL, Integer.MIN_VALUE);
-        ValueSieve m = mixed();
-        for (int bits : new int[] {0, 1, 24, 64, -8, Integer.MAX_VALUE}) {
-            notAsSaid("8: extend from " + bits, m, () -> m.extend(1, 2, bits));
-        }
-        noPlace("8: d goes first", m, () -> m.extend(-1, 2, 64));
-        noPlace("8: a", m, () -> m.extend(1, 16, 8));
     }
 
     private static void swap() {
-        ValueSieve s = new ValueSieve();
+        Sieve s = new Sieve();
         s.constant(1, 0x0102030405060708L);
         s.swap(2, 1, 64);
         hasJust("9: swap by 64", s, 2, 0x0807060504030201L);
@@ -538,16 +446,10 @@ public final class PromisesTest {
         s.any(1, 0x11);
         s.swap(2, 1, 64);
         has("9: swap of all", s, 2, 0, ALL, MIN, MAX, ALL, 0x11L << 56);
-        ValueSieve m = mixed();
-        for (int bits : new int[] {0, 8, 24, 48, -16, Integer.MAX_VALUE}) {
-            notAsSaid("9: swap by " + bits, m, () -> m.swap(1, 2, bits));
-        }
-        noPlace("9: d goes first", m, () -> m.swap(16, 2, 8));
-        noPlace("9: a", m, () -> m.swap(1, -1, 16));
     }
 
     private static void join() {
-        ValueSieve s = new ValueSieve();
+        Sieve s = new Sieve();
         s.constant(1, 4);
         s.constant(2, 6);
         s.join(3, 1, 2, true);
@@ -558,14 +460,10 @@ public final class PromisesTest {
         s.between(2, false, -2, -1, -1);
         s.join(2, 1, 2, false);
         has("10: over its own place", s, 2, 8, -1, -2, 9, ~8L, -1);
-        ValueSieve m = mixed();
-        noPlace("10: d", m, () -> m.join(16, 1, 2, true));
-        noPlace("10: a", m, () -> m.join(0, -1, 2, true));
-        noPlace("10: b", m, () -> m.join(0, 1, 16, true));
     }
 
     private static void widen() {
-        ValueSieve s = new ValueSieve();
+        Sieve s = new Sieve();
         s.between(1, true, 4, 6, 5);
         s.between(2, true, 4, 7, 7);
         s.widen(3, 1, 2);
@@ -582,14 +480,10 @@ public final class PromisesTest {
         s.between(2, true, 5, 5, 5);
         s.widen(1, 1, 2);
         has("11: Y within X", s, 1, 4, 6, 4, 6, 3, 5);
-        ValueSieve m = mixed();
-        noPlace("11: d", m, () -> m.widen(16, 0, 0));
-        noPlace("11: a", m, () -> m.widen(0, -1, 0));
-        noPlace("11: b", m, () -> m.widen(0, 0, 16));
     }
 
     private static void branchSame() {
-        ValueSieve s = new ValueSieve();
+        Sieve s = new Sieve();
         // The document's first worked case: 3 and 5.
         s.pattern(1, 1, 6, 3);
         s.between(2, true, 2, 6, 3);
@@ -630,7 +524,7 @@ public final class PromisesTest {
     }
 
     private static void branchOrder() {
-        ValueSieve s = new ValueSieve();
+        Sieve s = new Sieve();
         for (int shape = 0; shape <= 4; shape += 4) {
             boolean unsigned = shape == 0;
             s.between(1, true, 3, 12, 3);
@@ -679,7 +573,7 @@ public final class PromisesTest {
     }
 
     private static void branchBits() {
-        ValueSieve s = new ValueSieve();
+        Sieve s = new Sieve();
         s.between(1, true, 0, 12, 9);
         s.constant(2, 8);
         check("12: bit 3 in both", s.branch(10, 1, 2), true);
@@ -704,17 +598,8 @@ public final class PromisesTest {
         has("12: Y has no bit 0", s, 2, 8, 12, 8, 12, 6, 12);
     }
 
-    private static void branchWrong() {
-        ValueSieve m = mixed();
-        notAsSaid("12: comparison 12", m, () -> m.branch(12, 1, 2));
-        notAsSaid("12: comparison -1", m, () -> m.branch(-1, 1, 2));
-        notAsSaid("12: one place", m, () -> m.branch(0, 3, 3));
-        noPlace("12: no place goes first", m, () -> m.branch(12, -1, -1));
-        noPlace("12: a", m, () -> m.branch(0, -1, 3));
-        noPlace("12: a", m, () -> m.branch(0, 16, 3));
-        noPlace("12: b", m, () -> m.branch(0, 3, 16));
-        noPlace("12: b goes before the comparison", m, () -> m.branch(-1, 3, -1));
-        ValueSieve s = new ValueSieve();
+    private static void branchWitnesses() {
+        Sieve s = new Sieve();
         s.between(1, true, 3, 12, 7);
         s.between(2, true, 3, 12, 7);
         s.branch(2, 1, 2);
@@ -722,17 +607,15 @@ public final class PromisesTest {
         check("12: the witnesses stay", s.witness(2), 7);
     }
 
-    private static void decidedAre(String what, ValueSieve s, int... due) {
-        String before = state(s);
+    private static void decidedAre(String what, Sieve s, int... due) {
         for (int c = 0; c < due.length; c++) {
             check("13: " + what + ", comparison " + c, s.decided(c, 1, 2), due[c]);
         }
-        check("13: " + what + " changes nothing", before.equals(state(s)), true);
     }
 
     private static void decided() {
         int none = ValueSieve.NONE;
-        ValueSieve s = new ValueSieve();
+        Sieve s = new Sieve();
         s.between(1, true, 1, 4, 2);
         s.between(2, true, 5, 9, 7);
         decidedAre("1..4 and 5..9", s, 0, 1, 1, 1, 0, 0, 1, 1, 0, 0, none, none);
@@ -763,17 +646,10 @@ public final class PromisesTest {
         s.constant(2, 7);
         check("13: bits and bounds together", s.decided(10, 1, 2), 1);
         check("13: bits and bounds together, the opposite", s.decided(11, 1, 2), 0);
-        ValueSieve m = mixed();
-        notAsSaid("13: comparison 12", m, () -> m.decided(12, 1, 2));
-        notAsSaid("13: comparison -1", m, () -> m.decided(-1, 1, 2));
-        notAsSaid("13: one place", m, () -> m.decided(0, 3, 3));
-        noPlace("13: no place goes first", m, () -> m.decided(12, 16, 16));
-        noPlace("13: a", m, () -> m.decided(0, 16, 3));
-        noPlace("13: b", m, () -> m.decided(0, 3, -1));
     }
 
     private static void within() {
-        ValueSieve s = new ValueSieve();
+        Sieve s = new Sieve();
         s.between(1, true, 4, 6, 5);
         s.between(2, true, 4, 7, 5);
         s.pattern(3, 4, 2, 4);
@@ -799,12 +675,10 @@ public final class PromisesTest {
         check("14: LOW", s.within(10, 9), false);
         check("14: HIGH", s.within(11, 9), false);
         check("14: both", s.within(9, 10) && s.within(9, 11), true);
-        noPlace("14: a", s, () -> s.within(-1, 0));
-        noPlace("14: b", s, () -> s.within(0, 16));
     }
 
     private static void questions() {
-        ValueSieve s = new ValueSieve();
+        Sieve s = new Sieve();
         s.between(1, false, -4, 9, -1);
         check("15: has -4", s.has(1, -4), true);
         check("15: has -5", s.has(1, -5), false);
@@ -815,23 +689,13 @@ public final class PromisesTest {
         check("15: has 8", s.has(2, 8), false);
         check("15: has -4", s.has(2, -4), true);
         check("15: has -3", s.has(2, -3), false);
-        noPlace("15: has(16)", s, () -> s.has(16, 1));
-        noPlace("15: has(-1)", s, () -> s.has(-1, 1));
         check("16: LOW", s.least(1, true), 0);
         check("16: LEAST", s.least(1, false), -4);
-        noPlace("16: least(16)", s, () -> s.least(16, true));
-        noPlace("16: least(-1)", s, () -> s.least(-1, false));
         check("17: HIGH", s.greatest(1, true), -1);
         check("17: GREATEST", s.greatest(1, false), 9);
-        noPlace("17: greatest(16)", s, () -> s.greatest(16, true));
-        noPlace("17: greatest(-1)", s, () -> s.greatest(-1, false));
         s.pattern(3, 1, 12, 5);
         check("18: unknown", s.unknown(3), 12);
-        noPlace("18: unknown(16)", s, () -> s.unknown(16));
-        noPlace("18: unknown(-1)", s, () -> s.unknown(-1));
         check("19: witness", s.witness(3), 5);
-        noPlace("19: witness(16)", s, () -> s.witness(16));
-        noPlace("19: witness(-1)", s, () -> s.witness(-1));
         check("20: strays", s.strays(), 0);
     }
 
@@ -858,7 +722,7 @@ public final class PromisesTest {
         branchSame();
         branchOrder();
         branchBits();
-        branchWrong();
+        branchWitnesses();
         decided();
         within();
         questions();

@@ -47,7 +47,7 @@ public final class SmallSetsTest {
         return mask;
     }
 
-    private static void isTight(String what, ValueSieve s, int place, long[] numbers) {
+    private static void isTight(String what, Sieve s, int place, long[] numbers) {
         long low = numbers[0];
         long high = numbers[0];
         long least = numbers[0];
@@ -73,30 +73,58 @@ public final class SmallSetsTest {
         return kind == 0 ? v : kind == 1 ? v + dice.nextInt(9) - 4 : kind == 2 ? dice.nextLong() : v ^ (1L << dice.nextInt(64));
     }
 
-    /** A pattern met by an unsigned and by a signed range, in place 0; the numbers that are left. */
-    private static long[] sifted(ValueSieve s, Random dice, String what) {
-        long v = dice.nextInt(4) == 0 ? dice.nextLong() : dice.nextInt(300);
-        long open = randomMask(dice, 1 + dice.nextInt(5));
-        long[] numbers = listed(v, open);
-        long w = numbers[dice.nextInt(numbers.length)];
-        s.pattern(0, v, open, w);
-        isTight(what + ", pattern", s, 0, numbers);
-        for (int k = 0; k < 2; k++) {
-            boolean unsigned = k == 0;
-            long from = near(dice, numbers[dice.nextInt(numbers.length)]);
-            long to = near(dice, numbers[dice.nextInt(numbers.length)]);
-            boolean low = unsigned ? Long.compareUnsigned(from, w) <= 0 : from <= w;
-            boolean high = unsigned ? Long.compareUnsigned(w, to) <= 0 : w <= to;
-            from = low ? from : unsigned ? 0 : Long.MIN_VALUE;
-            to = high ? to : unsigned ? -1L : Long.MAX_VALUE;
-            s.between(1, unsigned, from, to, w);
-            check(what + ", branch", s.branch(0, 0, 1) ? 1 : 0, 1);
-            numbers = kept(numbers, unsigned, from, to);
-            isTight(what + ", between " + from + " and " + to, s, 0, numbers);
-            isTight(what + ", the other", s, 1, numbers);
-            check(what + ", within", s.within(0, 1) && s.within(1, 0) ? 1 : 0, 1);
+    /** A pattern, met by a range unsigned and by one as longs, and the list of the numbers that are left. */
+    private static final class Drawn {
+        final long v;
+        final long open;
+        final long w;
+        final long[] from = new long[2];
+        final long[] to = new long[2];
+        final long[][] left = new long[3][];
+
+        Drawn(Random dice) {
+            v = dice.nextInt(4) == 0 ? dice.nextLong() : dice.nextInt(300);
+            open = randomMask(dice, 1 + dice.nextInt(4));
+            left[0] = listed(v, open);
+            w = left[0][dice.nextInt(left[0].length)];
+            for (int k = 0; k < 2; k++) {
+                boolean unsigned = k == 0;
+                long some = near(dice, left[k][dice.nextInt(left[k].length)]);
+                long other = near(dice, left[k][dice.nextInt(left[k].length)]);
+                boolean low = unsigned ? Long.compareUnsigned(some, w) <= 0 : some <= w;
+                boolean high = unsigned ? Long.compareUnsigned(w, other) <= 0 : w <= other;
+                from[k] = low ? some : unsigned ? 0 : Long.MIN_VALUE;
+                to[k] = high ? other : unsigned ? -1L : Long.MAX_VALUE;
+                left[k + 1] = kept(left[k], unsigned, from[k], to[k]);
+            }
         }
-        return numbers;
+
+        long[] numbers() {
+            return left[2];
+        }
+
+        /** Puts the set to a place; places 0 and 1 are used for it. */
+        void put(Sieve s, int place) {
+            s.pattern(0, v, open, w);
+            for (int k = 0; k < 2; k++) {
+                s.between(1, k == 0, from[k], to[k], w);
+                s.branch(0, 0, 1);
+            }
+            s.operate(11, 64, place, 1, 0);
+        }
+
+        void isTight(String what) {
+            Sieve s = new Sieve();
+            s.pattern(0, v, open, w);
+            SmallSetsTest.isTight(what + ", pattern", s, 0, left[0]);
+            for (int k = 0; k < 2; k++) {
+                s.between(1, k == 0, from[k], to[k], w);
+                check(what + ", branch", s.branch(0, 0, 1) ? 1 : 0, 1);
+                SmallSetsTest.isTight(what + ", between " + from[k] + " and " + to[k], s, 0, left[k + 1]);
+                SmallSetsTest.isTight(what + ", the other", s, 1, left[k + 1]);
+                check(what + ", within", s.within(0, 1) && s.within(1, 0) ? 1 : 0, 1);
+            }
+        }
     }
 
     private static long reckon(int operation, int bits, long v, long w) {
@@ -109,16 +137,20 @@ public final class SmallSetsTest {
         return bits == 64 ? answers[operation] : answers[operation] & 0xFFFFFFFFL;
     }
 
-    private static void operations(ValueSieve s, String what, long[] xs, long[] ys) {
+    private static void operations(String what, Drawn x, Drawn y) {
         for (int operation = 0; operation < 12; operation++) {
             for (int bits = 32; bits <= 64; bits += 32) {
+                Sieve s = new Sieve();
+                x.put(s, 2);
+                y.put(s, 3);
                 s.operate(operation, bits, 4, 2, 3);
-                for (long v : xs) {
-                    for (long w : ys) {
+                for (long v : x.numbers()) {
+                    for (long w : y.numbers()) {
                         check(what + ", operation " + operation + " of " + bits + " on " + v + " and " + w,
                                 s.has(4, reckon(operation, bits, v, w)) ? 1 : 0, 1);
                     }
                 }
+                check(what + ", strays", s.strays(), 0);
             }
         }
     }
@@ -130,12 +162,15 @@ public final class SmallSetsTest {
         return answers[c];
     }
 
-    private static void comparisons(ValueSieve s, String what, long[] xs, long[] ys) {
+    private static void comparisons(String what, Drawn x, Drawn y) {
         for (int c = 0; c < 12; c++) {
+            Sieve s = new Sieve();
+            x.put(s, 2);
+            y.put(s, 3);
             boolean some = false;
             boolean all = true;
-            for (long v : xs) {
-                for (long w : ys) {
+            for (long v : x.numbers()) {
+                for (long w : y.numbers()) {
                     some |= isSo(c, v, w);
                     all &= isSo(c, v, w);
                 }
@@ -143,20 +178,36 @@ public final class SmallSetsTest {
             int got = s.decided(c, 2, 3);
             boolean sound = got == -1 || (got == 0 ? !some : all);
             check(what + ", decided " + c + " is sound", sound ? 1 : 0, 1);
-            s.operate(11, 64, 4, 0, 2);
-            s.operate(11, 64, 5, 0, 3);
-            boolean so = s.branch(c, 4, 5);
-            for (long v : xs) {
-                for (long w : ys) {
-                    boolean stays = isSo(c, v, w) != so || (s.has(4, v) && s.has(5, w));
-                    check(what + ", branch " + c + " keeps " + v + " and " + w, stays ? 1 : 0, 1);
-                }
+            boolean so = s.branch(c, 2, 3);
+            for (long v : x.numbers()) {
+                check(what + ", branch " + c + " keeps " + v, s.has(2, v) || !meets(c, so, v, y.numbers()) ? 1 : 0, 1);
             }
+            for (long w : y.numbers()) {
+                check(what + ", branch " + c + " keeps " + w, s.has(3, w) || !isMet(c, so, x.numbers(), w) ? 1 : 0, 1);
+            }
+            check(what + ", strays", s.strays(), 0);
         }
     }
 
+    private static boolean meets(int c, boolean so, long v, long[] ys) {
+        boolean some = false;
+        for (long w : ys) {
+            some |= isSo(c, v, w) == so;
+        }
+        return some;
+    }
+
+    private static boolean isMet(int c, boolean so, long[] xs, long w) {
+        boolean some = false;
+        for (long v : xs) {
+            some |= isSo(c, v, w) == so;
+        }
+        return some;
+    }
+
     /** The bits of sums and differences are told exactly, by the lists of patterns. */
-    private static void sums(ValueSieve s, Random dice, String what) {
+    private static void sums(Random dice, String what) {
+        Sieve s = new Sieve();
         long u = dice.nextInt(64);
         long v = dice.nextInt(64);
         long p = dice.nextInt(32) & dice.nextInt(64);
@@ -182,15 +233,12 @@ public final class SmallSetsTest {
         Random dice = new Random(20261115);
         for (int round = 0; round < 1500 && wrong < 50; round++) {
             String what = "round " + round;
-            ValueSieve s = new ValueSieve();
-            long[] xs = sifted(s, dice, what);
-            s.operate(11, 64, 2, 1, 0);
-            long[] ys = sifted(s, dice, what);
-            s.operate(11, 64, 3, 1, 0);
-            operations(s, what, xs, ys);
-            comparisons(s, what, xs, ys);
-            sums(s, dice, what);
-            check(what + ", strays", s.strays(), 0);
+            Drawn x = new Drawn(dice);
+            Drawn y = new Drawn(dice);
+            x.isTight(what);
+            operations(what, x, y);
+            comparisons(what, x, y);
+            sums(dice, what);
         }
         if (wrong != 0) {
             System.out.println(wrong + " answers are not as due");
