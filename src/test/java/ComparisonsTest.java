@@ -110,7 +110,8 @@ public final class ComparisonsTest {
 
     /** X's numbers as longs or unsigned, Y just one number: what is left of X once they are not the same. */
     private static void parted(Sentences doc, String edge, boolean unsigned, long[] x, long y, long[] due) {
-        String words = "TO REFINE by 1: if Y is single, its number is no more X's LOW, HIGH, LEAST or GREATEST: goes in by 1";
+        String words = "TO REFINE by 1: if Y is single, its number is no more X's LOW, HIGH, LEAST or GREATEST:"
+                + " such a bound goes in by 1";
         doc.sentence(words + " - " + edge, t -> {
             t.between(1, unsigned, x[0], x[1], x[2]);
             t.constant(2, y);
@@ -229,6 +230,8 @@ public final class ComparisonsTest {
         ordered(doc, 2, less, true, new long[] {3, 12, 3}, new long[] {0, 9, 9}, new long[] {3, 8}, new long[] {4, 9});
         ordered(doc, 2, less + " - both were so", true, new long[] {3, 8, 3}, new long[] {4, 9, 9}, new long[] {3, 8},
                 new long[] {4, 9});
+        ordered(doc, 2, less + " - both were so by far", true, new long[] {3, MIN + 5, 3}, new long[] {MAX, -1, MAX},
+                new long[] {3, MIN + 5}, new long[] {MAX, -1});
         ordered(doc, 2, less + " - HIGH was HIGH', LOW' was LOW", true, new long[] {3, 9, 3}, new long[] {3, 9, 9},
                 new long[] {3, 8}, new long[] {4, 9});
         ordered(doc, 2, less + " - HIGH' is 1", true, new long[] {0, 9, 0}, new long[] {0, 1, 1}, new long[] {0, 0},
@@ -243,6 +246,8 @@ public final class ComparisonsTest {
         ordered(doc, 3, notMore, true, new long[] {3, 12, 9}, new long[] {0, 9, 9}, new long[] {3, 9}, new long[] {3, 9});
         ordered(doc, 3, notMore + " - both were so", true, new long[] {3, 8, 3}, new long[] {4, 9, 9}, new long[] {3, 8},
                 new long[] {4, 9});
+        ordered(doc, 3, notMore + " - both were so by far", true, new long[] {3, MIN + 5, 3}, new long[] {MAX, -1, MAX},
+                new long[] {3, MIN + 5}, new long[] {MAX, -1});
         ordered(doc, 3, notMore + " - HIGH' is 0", true, new long[] {0, 9, 0}, new long[] {0, 0, 0}, new long[] {0, 0},
                 new long[] {0, 0});
         ordered(doc, 3, notMore + " - LOW is 2^64 - 1", true, new long[] {-1, -1, -1}, new long[] {3, -1, -1},
@@ -259,6 +264,8 @@ public final class ComparisonsTest {
                 new long[] {-2, 9});
         ordered(doc, 6, less + " - both were so", false, new long[] {-3, 8, 3}, new long[] {-2, 9, 9},
                 new long[] {-3, 8}, new long[] {-2, 9});
+        ordered(doc, 6, less + " - both were so by far", false, new long[] {-9, 5, 3}, new long[] {-2, 20, 9},
+                new long[] {-9, 5}, new long[] {-2, 20});
         ordered(doc, 6, less + " - GREATEST was GREATEST', LEAST' was LEAST", false, new long[] {-3, 9, -3},
                 new long[] {-3, 9, 9}, new long[] {-3, 8}, new long[] {-2, 9});
         ordered(doc, 6, less + " - GREATEST' is -2^63 + 1", false, new long[] {MIN, 9, MIN},
@@ -274,6 +281,8 @@ public final class ComparisonsTest {
                 new long[] {-3, 9});
         ordered(doc, 7, notMore + " - both were so", false, new long[] {-3, 8, 3}, new long[] {-2, 9, 9},
                 new long[] {-3, 8}, new long[] {-2, 9});
+        ordered(doc, 7, notMore + " - both were so by far", false, new long[] {-9, 5, 3}, new long[] {-2, 20, 9},
+                new long[] {-9, 5}, new long[] {-2, 20});
         ordered(doc, 7, notMore + " - GREATEST' is -2^63", false, new long[] {MIN, 9, MIN}, new long[] {MIN, MIN, MIN},
                 new long[] {MIN, MIN}, new long[] {MIN, MIN});
         ordered(doc, 7, notMore + " - LEAST is 2^63 - 1", false, new long[] {MAX, MAX, MAX}, new long[] {3, MAX, MAX},
@@ -326,6 +335,38 @@ public final class ComparisonsTest {
             t.answers("decided(7), exchanged", t.decided(7, 2, 1), 1);
             t.longs(1, MAX - 1, MAX);
             t.answers("decided(6)", t.decided(6, 1, 2), NONE);
+        });
+    }
+
+    /** The edge of one order is met by a bound of the other order. */
+    private static void ordersApart(Sentences doc) {
+        doc.sentence("TO REFINE by 2: nothing, if HIGH' is 0 - not if GREATEST' is", t -> {
+            t.any(1, 5);
+            t.between(2, false, -1, 0, -1);
+            t.answers("branch(2)", t.branch(2, 1, 2), true);
+            t.is(1, 0, -2, MIN, MAX, ALL);
+            t.isJust(2, -1);
+        });
+        doc.sentence("TO REFINE by 2: nothing, if LOW is 2^64 - 1 - not if LEAST is -1", t -> {
+            t.between(1, false, -1, 5, 3);
+            t.any(2, 7);
+            t.answers("branch(2)", t.branch(2, 1, 2), true);
+            t.isFromTo(1, 0, 5, 7);
+            t.is(2, 1, ALL, MIN, MAX, ALL);
+        });
+        doc.sentence("TO REFINE by 6 likewise - not nothing, if HIGH' is 2^63", t -> {
+            t.any(1, 5);
+            t.between(2, true, 3, MIN, 8);
+            t.answers("branch(6)", t.branch(6, 1, 2), true);
+            t.is(1, 0, ALL, MIN, MAX - 1, ALL);
+            t.isFromTo(2, 3, MAX, MAX);
+        });
+        doc.sentence("TO REFINE by 6 likewise - not nothing, if LOW is 2^63 - 1", t -> {
+            t.between(1, true, MAX, MIN + 5, MIN);
+            t.any(2, 3);
+            t.answers("branch(6)", t.branch(6, 1, 2), true);
+            t.isFromTo(1, MIN, MIN + 5, 7);
+            t.is(2, 0, ALL, MIN + 1, MAX, ALL);
         });
     }
 
@@ -570,6 +611,7 @@ public final class ComparisonsTest {
         orderUnsigned(doc);
         orderLongs(doc);
         orderNothing(doc);
+        ordersApart(doc);
         bits(doc);
         noBits(doc);
         decided(doc);

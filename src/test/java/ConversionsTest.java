@@ -63,9 +63,16 @@ public final class ConversionsTest {
             t.longs(1, -1, 0);
             t.cut(2, 1, n);
             t.isFromTo(2, 0, most, most);
+            // 3 .. 7 and 2^63 + 5 .. 2^63 + 9: only bit 63 is not the same.
+            t.between(1, true, 3, MIN + 9, 5);
+            t.between(2, false, MIN + 5, 7, 5);
+            t.branch(0, 1, 2);
+            t.cut(2, 1, n);
+            t.isFromTo(2, 0, 15, 15);
         });
         doc.sentence("cut: it goes to place d - and d may be a" + of, t -> {
             t.between(6, true, 2 * top + 3, 2 * top + 7, 2 * top + 4);
+            t.any(9, 1);
             t.cut(15, 6, n);
             t.isFromTo(15, 3, 7, 7);
             t.isOfWitness(15, 4);
@@ -162,6 +169,7 @@ public final class ConversionsTest {
         });
         doc.sentence("extend: it goes to place d - and d may be a" + of, t -> {
             t.between(6, true, top + half + 3, top + half + 6, top + half + 4);
+            t.any(9, 1);
             t.extend(15, 6, n);
             t.isFromTo(15, -half + 3, -half + 6, 7);
             t.isOfWitness(15, -half + 4);
@@ -222,6 +230,7 @@ public final class ConversionsTest {
         });
         doc.sentence("swap: it goes to place d - and d may be a", t -> {
             t.pattern(6, 0x1234, 0xF1, 0x1234);
+            t.any(9, 1);
             t.swap(15, 6, 16);
             t.isFromTo(15, 0x0412, 0xF512, 0xF100);
             t.isOfWitness(15, 0x3412);

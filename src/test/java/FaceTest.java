@@ -3,6 +3,7 @@ import java.lang.reflect.Field;
 import java.lang.reflect.Method;
 import java.lang.reflect.Modifier;
 import java.util.Arrays;
+import java.util.List;
 import java.util.Set;
 import java.util.TreeSet;
 
@@ -15,6 +16,9 @@ public final class FaceTest {
         "void widen(int,int,int)", "boolean branch(int,int,int)", "int decided(int,int,int)",
         "boolean within(int,int)", "boolean has(int,long)", "long least(int,boolean)",
         "long greatest(int,boolean)", "long unknown(int)", "long witness(int)", "int strays()"};
+
+    private static final List<String> NOT_AS_SAID =
+            List.of("between", "pattern", "operate", "cut", "extend", "swap", "branch", "decided");
 
     private static int wrong = 0;
 
@@ -35,7 +39,15 @@ public final class FaceTest {
         return text.append(')').toString();
     }
 
-    public static void main(String[] args) {
+    private static List<Class<?>> exceptions(String name) {
+        if (name.equals("strays")) {
+            return List.of();
+        }
+        return NOT_AS_SAID.contains(name) ? List.of(IndexOutOfBoundsException.class, IllegalArgumentException.class)
+                : List.of(IndexOutOfBoundsException.class);
+    }
+
+    public static void main(String[] args) throws NoSuchFieldException {
         Class<ValueSieve> face = ValueSieve.class;
         check("the class is public and final",
                 Modifier.isPublic(face.getModifiers()) && Modifier.isFinal(face.getModifiers()));
@@ -69,6 +81,16 @@ public final class FaceTest {
         check("there is one public constructor without arguments", makers.length == 1
                 && makers[0].getParameterCount() == 0 && Modifier.isPublic(makers[0].getModifiers()));
         check("NONE is -1", ValueSieve.NONE == -1);
+        Field none = face.getDeclaredField("NONE");
+        check("NONE is a public constant of type int", none.getType() == int.class
+                && Modifier.isPublic(none.getModifiers()) && Modifier.isStatic(none.getModifiers())
+                && Modifier.isFinal(none.getModifiers()));
+        for (Method method : face.getDeclaredMethods()) {
+            if (Modifier.isPublic(method.getModifiers())) {
+                check(method.getName() + " names the exceptions that the document names",
+                        Arrays.asList(method.getExceptionTypes()).equals(exceptions(method.getName())));
+            }
+        }
         if (wrong != 0) {
             System.exit(1);
         }

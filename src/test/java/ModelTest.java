@@ -634,7 +634,7 @@ public final class ModelTest {
         }
 
         int place() {
-            return dice.nextInt(5);
+            return (number + dice.nextInt(5)) % 16;
         }
 
         void define(int p) {

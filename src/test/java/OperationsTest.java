@@ -13,7 +13,7 @@ public final class OperationsTest {
     private static final int XOR = 7;
     private static final int MOVE = 11;
 
-    /** All numbers of four bits at a given height that have these bits. */
+    /** All numbers that have these bits, moved up to a given height. */
     private static long[] listed(int v, int open, int height) {
         long[] numbers = new long[1 << Integer.bitCount(open)];
         int part = 0;
@@ -121,6 +121,33 @@ public final class OperationsTest {
             t.make(ADD, 64);
             t.isAll(3);
         });
+        doc.sentence(least + " - far beyond", t -> {
+            t.longs(1, -5, 0x5555555555555555L);
+            t.longs(2, -5, 0x5555555555555555L);
+            t.make(ADD, 64);
+            t.isAll(3);
+            t.longs(1, MIN, 5);
+            t.longs(2, MIN, 5);
+            t.make(ADD, 64);
+            t.isAll(3);
+            t.longs(1, -5, MAX);
+            t.longs(2, -5, MAX);
+            t.make(ADD, 64);
+            t.isAll(3);
+        });
+        doc.sentence(least + " - one below 0, one above", t -> {
+            t.longs(1, -5, 7);
+            t.longs(2, 3, 4);
+            t.make(ADD, 64);
+            t.is(3, 0, ALL, -2, 11, ALL);
+            t.operate(ADD, 64, 3, 2, 1);
+            t.is(3, 0, ALL, -2, 11, ALL);
+            t.longs(2, -9, -4);
+            t.make(ADD, 64);
+            t.is(3, 0, ALL, -14, 3, ALL);
+            t.operate(ADD, 64, 3, 2, 1);
+            t.is(3, 0, ALL, -14, 3, ALL);
+        });
     }
 
     private static void subtraction(Sentences doc) {
@@ -182,6 +209,29 @@ public final class OperationsTest {
             t.longs(2, -1, 1);
             t.make(SUBTRACT, 64);
             t.isAll(3);
+        });
+        doc.sentence(least + " - far beyond", t -> {
+            t.longs(1, 0xAAAAAAAAAAAAAAAAL, 5);
+            t.longs(2, -5, 0x5555555555555555L);
+            t.make(SUBTRACT, 64);
+            t.isAll(3);
+            t.longs(1, -5, MAX);
+            t.longs(2, MIN, 5);
+            t.make(SUBTRACT, 64);
+            t.isAll(3);
+        });
+        doc.sentence(least + " - one below 0, one above", t -> {
+            t.longs(1, -5, 7);
+            t.longs(2, 3, 4);
+            t.make(SUBTRACT, 64);
+            t.is(3, 0, ALL, -9, 4, ALL);
+            t.operate(SUBTRACT, 64, 3, 2, 1);
+            t.is(3, 0, ALL, -4, 9, ALL);
+            t.longs(2, -9, -4);
+            t.make(SUBTRACT, 64);
+            t.is(3, 0, ALL, -1, 16, ALL);
+            t.operate(SUBTRACT, 64, 3, 2, 1);
+            t.is(3, 0, ALL, -16, 1, ALL);
         });
         doc.sentence(least + " - 0 less -2^63 is no long", t -> {
             t.longs(1, -1, 0);
@@ -280,6 +330,8 @@ public final class OperationsTest {
             t.unsigned(1, 7, -1);
             t.unsigned(2, 1, 1);
             t.make(MULTIPLY, 64);
+            t.is(3, 7, -1, MIN, MAX, ALL);
+            t.operate(MULTIPLY, 64, 3, 2, 1);
             t.is(3, 7, -1, MIN, MAX, ALL);
             t.unsigned(2, 1, 2);
             t.make(MULTIPLY, 64);
@@ -397,6 +449,17 @@ public final class OperationsTest {
             t.constant(2, -1);
             t.make(DIVIDE, 64);
             t.isFromTo(3, 0, 1, 1);
+            t.unsigned(1, 20, MIN + 5);
+            t.unsigned(2, 2, 7);
+            t.make(DIVIDE, 64);
+            t.isFromTo(3, 2, (1L << 62) + 2, MAX);
+            t.constant(1, -1);
+            t.unsigned(2, 3, MIN + 5);
+            t.make(DIVIDE, 64);
+            t.isFromTo(3, 1, 0x5555555555555555L, MAX);
+            t.unsigned(2, 0, MIN + 5);
+            t.make(DIVIDE, 64);
+            t.isAll(3);
         });
         doc.sentence("DIVIDE - no bit is said", t -> {
             t.bits(1, 8, 4);
@@ -493,26 +556,42 @@ public final class OperationsTest {
             t.make(REST, 64);
             t.is(3, 0, -2, MIN, MAX, ALL);
             t.isOfWitness(3, -2);
+            t.unsigned(2, 3, MIN + 9);
+            t.make(REST, 64);
+            t.is(3, 0, MIN + 8, MIN, MAX, ALL);
+            t.unsigned(2, 0, MIN + 9);
+            t.make(REST, 64);
+            t.isAll(3);
+            t.unsigned(1, 5, MIN + 9);
+            t.make(REST, 64);
+            t.is(3, 0, MIN + 9, MIN, MAX, ALL);
+            t.constant(2, 0);
+            t.make(REST, 64);
+            t.is(3, 0, MIN + 9, MIN, MAX, ALL);
         });
     }
 
     /** For each bit, known to be 0, known to be 1, or open (2), in X and in Y: what it is in what is made. */
     private static void bitTable(Sentences doc, int operation, String words, int[] due) {
         for (int bit : new int[] {0, 1, 31, 32, 63}) {
-            doc.sentence(words + " - bit " + bit, t -> {
-                long weight = 1L << bit;
-                for (int x = 0; x < 3; x++) {
-                    for (int y = 0; y < 3; y++) {
-                        t.bits(1, x == 1 ? weight : 0, x == 2 ? weight : 0);
-                        t.bits(2, y == 1 ? weight : 0, y == 2 ? weight : 0);
-                        t.make(operation, 64);
-                        int z = due[3 * x + y];
-                        t.answers("unknown of " + x + " and " + y, t.unknown(3), z == 2 ? weight : 0);
-                        t.answers("has it, of " + x + " and " + y, t.has(3, weight), z != 0);
-                        t.answers("lacks it, of " + x + " and " + y, t.has(3, 0), z != 1);
-                    }
-                }
-            });
+            long weight = 1L << bit;
+            doc.sentence(words + " - bit " + bit, t -> bitTable(t, operation, weight, 0, due));
+            // With open bits about it the bounds can't tell of the bit.
+            doc.sentence(words + " - bit " + bit + " among open ones", t -> bitTable(t, operation, weight, ~weight, due));
+        }
+    }
+
+    private static void bitTable(Trial t, int operation, long weight, long about, int[] due) {
+        for (int x = 0; x < 3; x++) {
+            for (int y = 0; y < 3; y++) {
+                t.bits(1, x == 1 ? weight : 0, about | (x == 2 ? weight : 0));
+                t.bits(2, y == 1 ? weight : 0, about | (y == 2 ? weight : 0));
+                t.make(operation, 64);
+                int z = due[3 * x + y];
+                t.answers("unknown of " + x + " and " + y, t.unknown(3), about | (z == 2 ? weight : 0));
+                t.answers("has it, of " + x + " and " + y, t.has(3, weight | about), z != 0);
+                t.answers("lacks it, of " + x + " and " + y, t.has(3, about), z != 1);
+            }
         }
     }
 

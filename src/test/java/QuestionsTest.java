@@ -11,6 +11,21 @@ public final class QuestionsTest {
                 t.lacks(p, 1, -1);
             }
         });
+        doc.sentence("ValueSieve(): All places have just 0 - though another object was used", t -> {
+            for (int p = 0; p < 16; p++) {
+                t.any(p, p + 1);
+            }
+            Sieve other = new Sieve();
+            for (int p = 0; p < 16; p++) {
+                t.answers("witness of the other's " + p, other.witness(p), 0);
+                t.answers("unknown of the other's " + p, other.unknown(p), 0);
+                other.constant(p, 7);
+            }
+            for (int p = 0; p < 16; p++) {
+                t.isOfWitness(p, p + 1);
+                t.answers("unknown of " + p, t.unknown(p), ALL);
+            }
+        });
         doc.sentence("any: the value of which nothing is said, and this witness", t -> {
             long[] witnesses = {0, 1, -1, MIN, MAX};
             for (long w : witnesses) {

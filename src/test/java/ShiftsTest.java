@@ -154,6 +154,15 @@ public final class ShiftsTest {
             t.make(LEFT, 64);
             t.is(3, 0, -4, MIN, MAX - 3, -4);
         });
+        doc.sentence(words + " - HIGH' is 2^63 + 2, though GREATEST' is 5", t -> {
+            t.bits(1, 4, ~7L);
+            // 3 .. 5 and 2^63 .. 2^63 + 2: GREATEST' is at most 63, HIGH' isn't.
+            t.between(2, true, 3, MIN + 2, 4);
+            t.between(4, false, MIN, 5, 4);
+            t.branch(0, 2, 4);
+            t.make(LEFT, 64);
+            t.is(3, 0, -4, MIN, MAX - 3, -4);
+        });
         doc.sentence(words + " - the lowest six bits of Y are known, but Y is not single", t -> {
             t.bits(1, 4, ~7L);
             t.bits(2, 3, 64);
@@ -263,7 +272,8 @@ public final class ShiftsTest {
     }
 
     private static void rightOpen(Sentences doc) {
-        String words = "RIGHT. Else with t and u being LOW' and HIGH' if HIGH' is at most 63, else 0 and 63: LOW >>> u and HIGH >>> t";
+        String words = "RIGHT. Else with t and u being LOW' and HIGH' if HIGH' is at most 63, else 0 and 63:"
+                + " LOW >>> u and HIGH >>> t";
         doc.sentence(words + " - 1 to 3", t -> {
             t.unsigned(1, 40, 100);
             t.unsigned(2, 1, 3);
@@ -296,6 +306,21 @@ public final class ShiftsTest {
             t.unsigned(2, 62, -1);
             t.make(RIGHT, 64);
             t.is(3, 1, -5, MIN, MAX, ALL);
+        });
+        doc.sentence(words + " - HIGH' is 2^63 + 2, though GREATEST' is 5", t -> {
+            t.unsigned(1, 40, 100);
+            // 3 .. 5 and 2^63 .. 2^63 + 2: GREATEST' is at most 63, HIGH' isn't.
+            t.between(2, true, 3, MIN + 2, 4);
+            t.between(4, false, MIN, 5, 4);
+            t.branch(0, 2, 4);
+            t.make(RIGHT, 64);
+            t.isFromTo(3, 0, 100, 127);
+        });
+        doc.sentence(words + " - LOW and HIGH about 2^63", t -> {
+            t.unsigned(1, 40, MIN + 9);
+            t.unsigned(2, 1, 3);
+            t.make(RIGHT, 64);
+            t.isFromTo(3, 5, (1L << 62) + 4, MAX);
         });
         doc.sentence(words + " - LOW' is 0", t -> {
             t.unsigned(1, 40, 100);
@@ -333,6 +358,15 @@ public final class ShiftsTest {
             t.constant(2, 2);
             t.make(SIGNED_RIGHT, 64);
             t.isFromTo(3, -4, -3, 1);
+            t.longs(1, -13, -7);
+            t.make(SIGNED_RIGHT, 64);
+            t.isFromTo(3, -4, -2, 3);
+            t.longs(1, -17, -4);
+            t.make(SIGNED_RIGHT, 64);
+            t.isFromTo(3, -5, -1, 7);
+            t.longs(1, -16, -7);
+            t.make(SIGNED_RIGHT, 64);
+            t.isFromTo(3, -4, -2, 3);
             t.any(1, 3);
             t.constant(2, 63);
             t.make(SIGNED_RIGHT, 64);
@@ -350,7 +384,8 @@ public final class ShiftsTest {
     }
 
     private static void signedRightOpen(Sentences doc) {
-        String words = "SIGNED RIGHT. Else the less of LEAST >> t and LEAST >> u, and the greater of GREATEST >> t and GREATEST >> u";
+        String words = "SIGNED RIGHT. Else the less of LEAST >> t and LEAST >> u,"
+                + " and the greater of GREATEST >> t and GREATEST >> u";
         doc.sentence(words + " - below 0 and above", t -> {
             t.longs(1, -40, 100);
             t.unsigned(2, 1, 3);
@@ -390,6 +425,15 @@ public final class ShiftsTest {
             t.longs(1, 40, 100);
             t.make(SIGNED_RIGHT, 64);
             t.isFromTo(3, 0, 100, 127);
+        });
+        doc.sentence(words + " - HIGH' is 2^63 + 2, though GREATEST' is 5", t -> {
+            t.longs(1, -40, -20);
+            // 3 .. 5 and 2^63 .. 2^63 + 2: GREATEST' is at most 63, HIGH' isn't.
+            t.between(2, true, 3, MIN + 2, 4);
+            t.between(4, false, MIN, 5, 4);
+            t.branch(0, 2, 4);
+            t.make(SIGNED_RIGHT, 64);
+            t.isFromTo(3, -40, -1, 63);
         });
         doc.sentence(words + " - u is 63, which leaves the sign alone", t -> {
             t.longs(1, 1L << 62, MAX);

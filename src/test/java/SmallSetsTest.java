@@ -70,7 +70,8 @@ public final class SmallSetsTest {
 
     private static long near(Random dice, long v) {
         int kind = dice.nextInt(4);
-        return kind == 0 ? v : kind == 1 ? v + dice.nextInt(9) - 4 : kind == 2 ? dice.nextLong() : v ^ (1L << dice.nextInt(64));
+        long close = kind == 1 ? v + dice.nextInt(9) - 4 : v;
+        return kind == 2 ? dice.nextLong() : kind == 3 ? v ^ (1L << dice.nextInt(64)) : close;
     }
 
     /** A pattern, met by a range unsigned and by one as longs, and the list of the numbers that are left. */
