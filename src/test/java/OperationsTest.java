@@ -290,6 +290,14 @@ public final class OperationsTest {
             t.make(MULTIPLY, 64);
             t.is(3, 2, -2, MIN | 2, MAX - 1, ~3L);
         });
+        doc.sentence("MULTIPLY. known, one behind the other from bit 0 on - by 1 the bits behind an open one are lost", t -> {
+            t.bits(1, 1, 10);
+            t.constant(2, 1);
+            t.make(MULTIPLY, 64);
+            t.isFromTo(3, 1, 11, 14);
+            t.operate(MULTIPLY, 64, 3, 2, 1);
+            t.isFromTo(3, 1, 11, 14);
+        });
         doc.sentence("MULTIPLY (wrapping)", t -> {
             long[][] products = {{MIN, 2, 0}, {-1, -1, 1}, {1L << 32, 1L << 32, 0}, {MAX, MAX, 1}, {MIN, MIN, 0},
                 {MIN, -1, MIN}, {MAX, 2, -2}, {0, MIN, 0}, {3, -5, -15}};
@@ -622,6 +630,17 @@ public final class OperationsTest {
             t.make(AND, 64);
             t.is(3, 0, MIN + 9, MIN, 15, MIN | 15);
         });
+        doc.sentence("AND. HIGH: the less of both - and no LOW, LEAST or GREATEST is said, even of -1", t -> {
+            t.unsigned(1, 5, 9);
+            t.constant(2, -1);
+            t.make(AND, 64);
+            t.isFromTo(3, 0, 9, 15);
+            t.operate(AND, 64, 3, 2, 1);
+            t.isFromTo(3, 0, 9, 15);
+            t.longs(1, -3, 5);
+            t.make(AND, 64);
+            t.isAll(3);
+        });
         doc.sentence("OR. LOW: the greater of both", t -> {
             t.unsigned(1, 5, 9);
             t.unsigned(2, 6, 12);
@@ -632,6 +651,14 @@ public final class OperationsTest {
             t.constant(2, 0);
             t.make(OR, 64);
             t.isFromTo(3, 5, 15, 15);
+        });
+        doc.sentence("OR. LOW: the greater of both - and no LEAST or GREATEST is said, even of 0", t -> {
+            t.longs(1, -3, 5);
+            t.constant(2, 0);
+            t.make(OR, 64);
+            t.isAll(3);
+            t.operate(OR, 64, 3, 2, 1);
+            t.isAll(3);
         });
         doc.sentence("OR. LOW: the greater of both - unsigned", t -> {
             t.unsigned(1, 5, 9);

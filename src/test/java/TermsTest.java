@@ -1,3 +1,5 @@
+import java.util.function.Consumer;
+
 /** The sentences of 'What it is' and 'Terms' on numbers, sayings, tightening and places, at their edges. */
 public final class TermsTest {
     private static final long MIN = Trial.MIN;
@@ -7,6 +9,8 @@ public final class TermsTest {
     private static final int XOR = 7;
     private static final int LEFT = 8;
     private static final int MOVE = 11;
+    // What it takes to look at all that is said of a place.
+    private static final int LOOK_CALLS = 8;
 
     private static void calls(Sentences doc) {
         doc.sentence("An object is used for at most 512 calls - the 512th is still answered", t -> {
@@ -23,6 +27,20 @@ public final class TermsTest {
             }
             t.answers("the 512th call, branch(1, 0, 1)", t.branch(1, 0, 1), false);
         });
+        calls(doc, "any", t -> t.any(3, 5), t -> t.isAll(3));
+        calls(doc, "constant", t -> t.constant(3, 5), t -> t.is(3, 5, 5, 5, 5, 0));
+        calls(doc, "between", t -> t.between(3, true, 3, 12, 7), t -> t.isFromTo(3, 3, 12, 15));
+        calls(doc, "pattern", t -> t.pattern(3, 8, 5, 12), t -> t.isFromTo(3, 8, 13, 5));
+        calls(doc, "operate", t -> t.operate(ADD, 64, 3, 1, 2), t -> t.isFromTo(3, 0x1F6, 0x1FE, 15));
+        calls(doc, "cut", t -> t.cut(3, 1, 8), t -> t.isFromTo(3, 0xF3, 0xF7, 7));
+        calls(doc, "extend", t -> t.extend(3, 1, 8), t -> t.isFromTo(3, -13, -9, 7));
+        calls(doc, "swap", t -> t.swap(3, 1, 16), t -> t.isFromTo(3, 0xF001, 0xF701, 0x700));
+        calls(doc, "join", t -> t.join(3, 1, 2, true), t -> t.isFromTo(3, 3, 0x1F7, 0x1F7));
+        calls(doc, "widen", t -> t.widen(3, 1, 2), t -> t.isFromTo(3, 0, 0x1F7, 0x1F7));
+        calls(doc, "branch", t -> t.branch(4, 1, 2), t -> t.isFromTo(1, 0x1F3, 0x1F7, 7));
+        calls(doc, "decided", t -> t.decided(4, 1, 2), t -> t.isFromTo(2, 3, 7, 7));
+        calls(doc, "within", t -> t.within(1, 2), t -> t.isFromTo(2, 3, 7, 7));
+        calls(doc, "has", t -> t.has(2, 5), t -> t.isFromTo(2, 3, 7, 7));
         doc.sentence("An object is used for at most 512 calls - refused calls spoil nothing", t -> {
             while (t.callsLeft() > 9) {
                 int k = t.callsLeft();
@@ -34,6 +52,18 @@ public final class TermsTest {
                 }
             }
             t.isJust(15, 0);
+        });
+    }
+
+    /** One call over and over, and the last of the 512 calls to look at what came of it. */
+    private static void calls(Sentences doc, String name, Consumer<Trial> call, Consumer<Trial> look) {
+        doc.sentence("An object is used for at most 512 calls - most of them " + name, t -> {
+            t.unsigned(1, 0x1F3, 0x1F7);
+            t.unsigned(2, 3, 7);
+            while (t.callsLeft() > LOOK_CALLS) {
+                call.accept(t);
+            }
+            look.accept(t);
         });
     }
 
