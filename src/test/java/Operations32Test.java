@@ -90,6 +90,39 @@ public final class Operations32Test {
             t.make(LEFT, 64);
             t.is(3, 0, -1, MIN, MAX, -1);
         });
+        doc.sentence(words + " - Y is single once it is cut, RIGHT", t -> {
+            // X is 40 or 44: by 3 both give 5, by 2 or 3 all from 5 to 11 may come.
+            t.bits(1, 40, 4);
+            t.bits(2, 3, TOP);
+            t.make(RIGHT, 32);
+            t.isJust(3, 5);
+            t.bits(2, 3, TOP | 1);
+            t.make(RIGHT, 32);
+            t.isFromTo(3, 5, 11, 15);
+            t.bits(2, 3, TOP);
+            t.make(RIGHT, 64);
+            t.isFromTo(3, 0, 44, 63);
+        });
+        doc.sentence(words + " - Y is single once it is cut, SIGNED RIGHT", t -> {
+            // -8 or -4 once X is extended; by 1 it is -4 or -2, by 0 or 1 all from -8 to -2.
+            t.bits(1, MOST - 7, 4);
+            t.bits(2, 1, ~MOST);
+            t.make(SIGNED_RIGHT, 32);
+            t.isFromTo(3, MOST - 3, MOST - 1, 2);
+            t.bits(2, 1, ~MOST | 1);
+            t.make(SIGNED_RIGHT, 32);
+            t.isFromTo(3, MOST - 7, MOST - 1, 7);
+        });
+        doc.sentence(words + " - Y is single once it is cut, and is more than 31", t -> {
+            t.unsigned(1, 16, 17);
+            t.bits(2, 35, ~MOST);
+            t.make(LEFT, 32);
+            t.isFromTo(3, 128, 136, 8);
+            t.make(RIGHT, 32);
+            t.isJust(3, 2);
+            t.make(SIGNED_RIGHT, 32);
+            t.isJust(3, 2);
+        });
     }
 
     private static void cutBehind(Sentences doc) {

@@ -60,6 +60,9 @@ public final class RefusalsTest {
             noPlace(doc, "operate of 32 bits on a" + of, t -> t.operate(10, 32, 1, p, 3));
             noPlace(doc, "operate of 32 bits on b" + of, t -> t.operate(10, 32, 1, 2, p));
             noPlace(doc, "operate on a, which MOVE does not look at," + of, t -> t.operate(11, 64, 1, p, 3));
+            noPlace(doc, "operate of 32 bits on a, which MOVE does not look at," + of, t -> t.operate(11, 32, 1, p, 3));
+            noPlace(doc, "operate, MOVE to d" + of, t -> t.operate(11, 64, p, 2, 3));
+            noPlace(doc, "operate, MOVE of b" + of, t -> t.operate(11, 64, 1, 2, p));
             noPlace(doc, "cut to d" + of, t -> t.cut(p, 2, 8));
             noPlace(doc, "cut of a" + of, t -> t.cut(1, p, 8));
             noPlace(doc, "cut to 64 bits, d" + of, t -> t.cut(p, 2, 64));
