@@ -691,6 +691,20 @@ public final class ModelTest {
             witnesses[p] = w;
         }
 
+        /** One number if it is cut to 32 bits, and many if it is not. */
+        void defineOpenAbove(int p) {
+            long open = (dice.nextLong() << 32) | (1L << (32 + dice.nextInt(32)));
+            long v = dice.nextInt(70);
+            long w = v | (dice.nextLong() & open);
+            call = "pattern " + v + " " + open + " " + w;
+            sieve.pattern(p, v, open, w);
+            Model m = new Model();
+            for (int k = 0; k < 64; k++) {
+                m.digits[k] = (open >>> k & 1) == 1 ? OPEN : (int) (v >>> k & 1);
+            }
+            set(p, m.tight(), w);
+        }
+
         void set(int d, Model m, long w) {
             models[d] = m;
             witnesses[d] = w;
@@ -712,6 +726,8 @@ public final class ModelTest {
                 int bits = dice.nextInt(3) == 0 ? 32 : 64;
                 if (operation >= 8 && operation <= 10 && dice.nextBoolean()) {
                     defineBetween(b, dice.nextInt(70), dice.nextInt(70), true);
+                } else if (bits == 32 && dice.nextInt(4) == 0) {
+                    defineOpenAbove(b);
                 }
                 call = "operate " + operation + " " + bits + " " + d + " " + a + " " + b;
                 sieve.operate(operation, bits, d, a, b);
